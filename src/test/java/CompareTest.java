@@ -6,12 +6,14 @@ import java.util.List;
  * that is always the same. No call may throw anything but what the document names (a subclass has another name).
  */
 final class CompareTest {
-    private static final String[] REPORTS = {"count 12", "cabin 4 8", "meal 12 10", "passenger 40 6", "trolley 8 4",
-        "held 8 12", "topUpAt 6 3", "errorCode", "errorPosition", "reason", "outlook 6", "mealFor 40", "account 6",
-        "wasteShare", "wasteBits", "costBits", "writeTrolley 8", "outputByte 20"};
-    private static final String[] ACTS = {"board 4 256 12", "change 40 4", "leave 40", "setNeeds 40 256", "loadOrder",
-        "store 12 12", "store 12 12", "unload 12 9", "topUp 12 20", "advance 30", "serve", "undo", "undo", "keep 2",
-        "restore 2", "feed 900 900 900 900 900"};
+    // Behind a name stand the bounds of its numbers: C cabins, M meals, P passengers, T trolleys, U top-ups.
+    private static final String[] REPORTS = {"count 12", "cabin C 8", "meal M 10", "passenger P 6", "trolley T 4",
+        "held T M", "topUpAt U 3", "errorCode", "errorPosition", "reason", "outlook 6", "mealFor P", "mealFor P",
+        "account 6", "wasteShare", "wasteBits", "costBits", "writeTrolley T", "outputByte 20"};
+    private static final String[] ACTS = {"board C 256 0", "board C 8 M", "board C 8 M", "change P C", "change P C",
+        "leave P", "setNeeds P 256", "setNeeds P 8", "loadOrder", "store M 12", "store M 4", "store M 4", "store M 2",
+        "unload M 4", "topUp M 9", "topUp M 9", "topUp M 9", "advance 30", "advance 6", "undo", "undo", "keep 2"};
+    private static final String[] RARE_ACTS = {"serve", "restore 2", "feed 9 9 9 9 9", "advance 600", "store M 99"};
 
     private static long row = 20261119;
 
@@ -33,12 +35,13 @@ final class CompareTest {
         List<String> calls = new ArrayList<>();
         int most = 60 + below(200);
         while (calls.size() < most) {
-            if (below(40) == 0 || calls.isEmpty() && below(20) > 0) {
+            if (below(60) == 0 || calls.isEmpty() && below(20) > 0) {
                 if (!text(run, loader, model, calls)) {
                     return;
                 }
             }
-            String call = below(5) < 2 ? call(ACTS) : call(REPORTS);
+            String[] shapes = below(12) == 0 ? RARE_ACTS : below(2) == 0 ? ACTS : REPORTS;
+            String call = call(shapes[below(shapes.length)], model);
             if (!same(run, loader, model, calls, call)) {
                 return;
             }
@@ -56,19 +59,30 @@ final class CompareTest {
         return got.equals(want);
     }
 
-    /** A call with numbers below the bounds that stand behind its name, and with others now and then. */
-    private static String call(String[] shapes) {
-        String[] words = shapes[below(shapes.length)].split(" ");
+    private static int bound(String word, Model model) {
+        return switch (word) {
+            case "C" -> model.count(1);
+            case "M" -> model.count(2);
+            case "P" -> model.count(3);
+            case "T" -> model.count(4);
+            case "U" -> model.count(6);
+            default -> Integer.parseInt(word);
+        };
+    }
+
+    /** A call with numbers below its bounds, and with others now and then. */
+    private static String call(String shape, Model model) {
+        String[] words = shape.split(" ");
         StringBuilder call = new StringBuilder(words[0]);
         for (int i = 1; i < words.length; i++) {
-            int bound = Integer.parseInt(words[i]);
-            int number = switch (below(16)) {
-                case 0 -> -1;
-                case 1 -> bound;
-                case 2 -> below(2) == 0 ? Integer.MIN_VALUE + below(3) : Integer.MAX_VALUE - below(3);
-                case 3, 4, 5, 6 -> below(Math.min(bound, 3));
-                default -> below(bound);
-            };
+            int bound = bound(words[i], model);
+            int number = bound == 0 ? -1 : below(bound);
+            switch (below(40)) {
+                case 0 -> number = -1;
+                case 1 -> number = bound;
+                case 2 -> number = below(2) == 0 ? Integer.MIN_VALUE + below(3) : Integer.MAX_VALUE - below(3);
+                default -> { }
+            }
             call.append(' ').append(number);
         }
         return call.toString();
@@ -79,55 +93,41 @@ final class CompareTest {
         if (below(6) == 0 && !text.isEmpty()) {
             text = spoiled(text);
         }
-        // What stands in the buffer goes first, so a text is whole only behind an empty one.
-        same(run, loader, model, calls, "load 0");
+        // What stands in the buffer goes first, by an error that leaves the flight.
+        same(run, loader, model, calls, "load 1");
         text = text.substring(0, Math.min(text.length(), 900));
         calls.add("feed " + text.replace("\n", "\\n"));
-        Script.feed(loader, text);
-        for (String call : feeds(text)) {
-            Script.answer(model, call);
-        }
+        Script.feedTo(loader, text);
+        Script.feedTo(model, text);
         return same(run, loader, model, calls, "load " + text.length())
             && same(run, loader, model, calls, "errorCode") && same(run, loader, model, calls, "errorPosition");
     }
 
-    private static List<String> feeds(String text) {
-        List<String> calls = new ArrayList<>();
-        for (int at = 0; at < text.length(); at += 20) {
-            StringBuilder call = new StringBuilder("feed");
-            for (int four = 0; four < 20; four += 4) {
-                int number = 0;
-                for (int i = 0; i < 4; i++) {
-                    int place = at + four + i;
-                    number = number << 8 | (place < text.length() ? text.charAt(place) : '$');
-                }
-                call.append(' ').append(number);
-            }
-            calls.add(call.toString());
-        }
-        return calls;
-    }
-
+    /** A text without an error, of at most 900 bytes. */
     private static String flight() {
         StringBuilder text = new StringBuilder();
         int cabins = 1 + below(4);
         int meals = 1 + below(12);
+        int[] free = new int[cabins];
+        int[] home = new int[meals];
         if (below(3) == 0) {
-            text.append("time ").append(1 + below(60)).append(' ').append(below(30)).append(';');
+            text.append("time ").append(1 + below(90)).append(' ').append(below(20)).append(';');
         }
         if (below(2) == 0) {
             text.append("lead ").append(below(3) == 0 ? 0 : below(12)).append(';');
         }
         for (int c = 0; c < cabins; c++) {
-            text.append("cabin ").append((char) ('a' + c)).append(' ').append(1 + below(below(2) == 0 ? 40 : 12));
+            free[c] = 1 + below(below(3) == 0 ? 40 : 12);
+            text.append("cabin ").append((char) ('a' + c)).append(' ').append(free[c]);
             text.append(below(2) == 0 ? "" : " " + below(51)).append(below(9) == 0 ? ";\n" : ";");
         }
         for (int m = 0; m < meals; m++) {
-            text.append("meal ").append((char) ('a' + m)).append(below(4) == 0 ? "x" : "");
-            if (below(2) == 0) {
+            home[m] = below(2) == 0 ? -1 : below(cabins);
+            text.append("meal ").append((char) ('a' + m));
+            if (home[m] < 0) {
                 text.append(" special ");
             } else {
-                text.append(" menu ").append((char) ('a' + below(cabins))).append(' ');
+                text.append(" menu ").append((char) ('a' + home[m])).append(' ');
                 text.append(1 + below(below(2) == 0 ? 4 : 99)).append(' ');
             }
             text.append(1 + below(3)).append(' ').append(1 + below(below(2) == 0 ? 3 : 9999));
@@ -136,20 +136,33 @@ final class CompareTest {
         for (int t = below(9); t > 0; t--) {
             text.append("trolley ").append((char) ('a' + below(cabins))).append(' ').append(1 + below(40)).append(';');
         }
-        for (int g = below(20); g > 0; g--) {
-            text.append("guest ").append((char) ('a' + below(cabins)));
-            text.append(below(3) == 0 ? "" : " needs " + diets());
-            text.append(below(6) == 0 ? " wish " + (char) ('a' + below(meals)) : "").append(';');
-            if (below(8) == 0) {
-                text.append("guests ").append((char) ('a' + below(cabins))).append(' ').append(1 + below(5)).append(';');
+        guests(text, free, home);
+        return text.length() <= 900 ? text.toString() : text.substring(0, text.lastIndexOf(";", 899) + 1);
+    }
+
+    private static void guests(StringBuilder text, int[] free, int[] home) {
+        int people = 0;
+        for (int g = below(40); g > 0; g--) {
+            int c = below(free.length);
+            int wish = below(home.length);
+            int more = 1 + below(3);
+            if (free[c] > 0 && people < 40) {
+                text.append("guest ").append((char) ('a' + c)).append(below(3) == 0 ? "" : " needs " + diets());
+                text.append(home[wish] == c ? " wish " + (char) ('a' + wish) : "").append(';');
+                free[c]--;
+                people++;
+            }
+            if (below(6) == 0 && free[c] >= more && people + more <= 40) {
+                text.append("guests ").append((char) ('a' + c)).append(' ').append(more).append(';');
+                free[c] -= more;
+                people += more;
             }
         }
-        return text.toString();
     }
 
     private static String diets() {
         StringBuilder diets = new StringBuilder();
-        for (char diet = 'a'; diet <= 'c' + below(6); diet++) {
+        for (char diet = 'a'; diet <= 'b' + below(3); diet++) {
             if (below(3) == 0) {
                 diets.append(diet);
             }
@@ -179,8 +192,8 @@ final class CompareTest {
     private static void everything(int run, MealLoader loader, Model model, List<String> calls) {
         for (String shape : REPORTS) {
             String[] words = shape.split(" ");
-            int first = words.length > 1 ? Integer.parseInt(words[1]) : 1;
-            int second = words.length > 2 ? Integer.parseInt(words[2]) : 1;
+            int first = words.length > 1 ? bound(words[1], model) : 1;
+            int second = words.length > 2 ? bound(words[2], model) : 1;
             for (int i = 0; i < first; i++) {
                 for (int k = 0; k < second; k++) {
                     String call = words[0] + (words.length > 1 ? " " + i : "") + (words.length > 2 ? " " + k : "");

@@ -52,7 +52,7 @@ final class Script {
         String rest = call.substring(Math.min(call.length(), word.length() + 1));
         switch (word) {
             case "good" -> check(line, loadText(unescape(rest)), want);
-            case "feeds" -> check(line, String.valueOf(feed(unescape(rest))), want);
+            case "feeds" -> check(line, feedTo(loader, unescape(rest)), want);
             case "writes" -> writes(line, rest, want);
             default -> check(line, answer(loader, call), reckon(want));
         }
@@ -77,25 +77,24 @@ final class Script {
         check(line, answer(loader, "outputByte " + length), "throws.IndexOutOfBoundsException");
     }
 
-    private int feed(String text) {
-        return feed(loader, text);
-    }
-
     private String loadText(String text) {
-        feed(text);
+        feedTo(loader, text);
         return answer(loader, "load " + text.length());
     }
 
     /** Feeds a text, with signs behind it that no text may have where 20 does not divide its length. */
-    static int feed(MealLoader loader, String text) {
-        int length = 0;
+    static String feedTo(Object target, String text) {
+        String length = "0";
         for (int at = 0; at < text.length(); at += 20) {
-            int[] fours = new int[5];
-            for (int i = 0; i < 20; i++) {
-                int sign = at + i < text.length() ? text.charAt(at + i) : '$';
-                fours[i / 4] = fours[i / 4] << 8 | sign;
+            StringBuilder call = new StringBuilder("feed");
+            for (int four = at; four < at + 20; four += 4) {
+                int number = 0;
+                for (int i = four; i < four + 4; i++) {
+                    number = number << 8 | (i < text.length() ? text.charAt(i) : '$');
+                }
+                call.append(' ').append(number);
             }
-            length = loader.feed(fours[0], fours[1], fours[2], fours[3], fours[4]);
+            length = answer(target, call.toString());
         }
         return length;
     }
