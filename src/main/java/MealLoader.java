@@ -416,7 +416,7 @@ public final class MealLoader {
     }
 
     public int wasteBits() {
-        return bitsOfFloat(wasteShare());
+        return bitsOfShare(wasteShare());
     }
 
     public long costBits() {
@@ -424,7 +424,7 @@ public final class MealLoader {
         if (services == 0) {
             return 0;
         }
-        return bitsOfDouble((double) now.accounts[WASTED_COST] / (double) services);
+        return bitsOfCost((double) now.accounts[WASTED_COST] / (double) services);
     }
 
     // ---- undo and slots
@@ -593,26 +593,22 @@ public final class MealLoader {
         return service;
     }
 
-    /** The bits of a number that is not negative, reckoned from its value. */
-    private static int bitsOfFloat(float number) {
-        if (number <= 0) {
+    /** The bits of a number from 0 to 1, reckoned from its value: it is doubled until it is at least 1. */
+    private static int bitsOfShare(float share) {
+        if (share <= 0) {
             return 0;
         }
         int exponent = 127;
-        float rest = number;
+        float rest = share;
         for (int i = 0; i < 126 && rest < 1; i++) {
             rest *= 2;
             exponent--;
         }
-        for (int i = 0; i < 127 && rest >= 2; i++) {
-            rest /= 2;
-            exponent++;
-        }
         return (exponent << 23) + (int) ((rest - 1) * (1 << 23));
     }
 
-    /** The bits of a number that is not negative, reckoned from its value. */
-    private static long bitsOfDouble(double number) {
+    /** The bits of a number that is not negative, reckoned from its value: it is brought to 1 to 2. */
+    private static long bitsOfCost(double number) {
         if (number <= 0) {
             return 0;
         }
@@ -758,7 +754,6 @@ public final class MealLoader {
         void clear(Plan its) {
             plan = its;
             served = false;
-            minutesLeft = 0;
             passengers = 0;
             topUps = 0;
             for (int t = 0; t < MOST_TROLLEYS; t++) {
@@ -1228,7 +1223,6 @@ public final class MealLoader {
         }
 
         void reckon(Flight flight, int[] matched) {
-            specialsFed = 0;
             fed = 0;
             wishesMet = 0;
             Arrays.fill(eaten, 0);

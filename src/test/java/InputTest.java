@@ -138,6 +138,14 @@ final class InputTest {
             count 10 = 30
             count 11 = 10
             """);
+        Script.run("nothing is on its way at the beginning", """
+            good cabin a 5;meal m special 1 30;trolley a 9; = 0
+            topUp 0 2 = 1
+            store 0 1 = 1
+            good cabin a 5;meal m special 1 30;trolley a 9; = 0
+            count 6 = 0
+            meal 0 7 = 0
+            """);
         Script.run("old passengers, units and spare percentages are gone in a third flight", """
             good cabin a 5 50;meal m menu a 1 2 30 offers ab;trolley a 9;guest a needs a wish m; = 1
             store 0 3 = 3

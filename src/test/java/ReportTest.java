@@ -294,6 +294,14 @@ final class ReportTest {
             meal 1 6 = 20
             count 8 = 41
             """);
+        Script.run("the remainders of another cabin do not count", """
+            good cabin a 9;cabin b 9;meal w menu a 5 1 9;meal x menu a 4 1 9;meal y menu b 3 1 9;meal z menu b 4 1 9;guests a 1;guests b 1; = 2
+            // 5/9 and 4/9, then 3/7 and 4/7: x has the remainder 4 of 9
+            meal 0 6 = 1
+            meal 1 6 = 0
+            meal 2 6 = 0
+            meal 3 6 = 1
+            """);
         Script.run("special passengers are ordered apart, and cabins each for itself", """
             good cabin a 40 10;cabin b 9 50;cabin c 9;meal x menu b 1 2 9 offers a;meal y special 3 8 offers ab;meal z menu b 1 1 9 offers a;guest a needs a;guest b needs a;guest b needs b;guests b 1;guests a 5;guests c 2;guest c needs c; = 12
             // b: 1.5 rounded up is 2 units; a and c have no menu

@@ -55,6 +55,26 @@ final class ServiceTest {
             mealFor 3 = -1
             mealFor 4 = 3
             """);
+        Script.run("a unit that an earlier choice sets free", """
+            good cabin a 9;trolley a 9;meal u special 1 1 offers abcde;meal v special 1 1 offers acd;meal w special 1 1 offers cde;meal x special 1 1 offers acde;meal y special 1 1 offers a;meal z special 1 1 offers ab; = 0
+            board 0 1 -1 = 0
+            board 0 1 -1 = 1
+            board 0 16 -1 = 2
+            board 0 17 -1 = 3
+            board 0 8 -1 = 4
+            board 0 17 -1 = 5
+            store 0 2 = 2
+            store 1 1 = 1
+            store 2 2 = 2
+            store 4 1 = 1
+            store 5 2 = 2
+            mealFor 0 = 1
+            mealFor 1 = 4
+            mealFor 2 = 2
+            mealFor 3 = 0
+            mealFor 4 = 2
+            mealFor 5 = 0
+            """);
         Script.run("meals of the menu and of other cabins", """
             good cabin a 9;cabin b 9;meal x menu b 1 1 5 offers a;meal y menu a 1 1 7 offers a;meal z special 1 7 offers a;trolley b 2;trolley a 9;guest a needs a;guest a needs a;guest a;guest b needs a; = 4
             store 0 1 = 1

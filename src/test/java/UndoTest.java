@@ -61,6 +61,25 @@ final class UndoTest {
             count 7 = 0
             reason = 3
             """);
+        Script.run("top-ups come back in their order", FLIGHT + """
+            topUp 1 2 = 1
+            advance 3 = 0
+            topUp 0 1 = 2
+            advance 7 = 0
+            topUpAt 0 0 = 0
+            topUp 2 5 = 2
+            advance 10 = 0
+            undo = 5
+            undo = 4
+            undo = 3
+            count 6 = 2
+            topUpAt 0 0 = 1
+            topUpAt 0 1 = 2
+            topUpAt 0 2 = 90
+            topUpAt 1 0 = 0
+            topUpAt 1 1 = 1
+            topUpAt 1 2 = 87
+            """);
         Script.run("undo of the service", FLIGHT + """
             loadOrder = 4
             topUp 0 1 = 1
