@@ -66,14 +66,15 @@ public final class MealLoader {
         input = new byte[INPUT_ROOM];
         output = new byte[OUTPUT_ROOM];
         textErrorPosition = NONE;
-        now = new Flight(new Plan());
-        trial = new Flight(now.plan);
+        Plan first = new Plan();
+        now = new Flight(first);
+        trial = new Flight(first);
         idlePlan = new Plan();
-        flightText = new FlightText(input);
-        history = new History(now.plan);
+        flightText = new FlightText();
+        history = new History(first);
         slotFlights = new Flight[KEEPING_SLOTS];
         for (int slot = 0; slot < KEEPING_SLOTS; slot++) {
-            slotFlights[slot] = new Flight(now.plan);
+            slotFlights[slot] = new Flight(first);
         }
         slotUsed = new boolean[KEEPING_SLOTS];
         order = new Order();
@@ -106,7 +107,7 @@ public final class MealLoader {
         if (length < 0 || length > inputLength) {
             throw new IllegalArgumentException("no such length of the buffer");
         }
-        boolean right = flightText.read(length, trial, idlePlan);
+        boolean right = flightText.read(input, length, trial, idlePlan);
         inputLength = 0;
         textError = flightText.error;
         textErrorPosition = flightText.errorAt;
@@ -1286,19 +1287,16 @@ public final class MealLoader {
         static final int WRONG = 4;
         static final int MOST_DIGITS = 4;
 
-        final byte[] text;
+        byte[] text = new byte[0];
         int length;
         int start;
         int behind;
         int kind;
         int number;
 
-        Tokens(byte[] source) {
+        void begin(byte[] source, int textLength) {
             text = source;
-        }
-
-        void begin(int textLength) {
-            length = Math.min(textLength, text.length);
+            length = Math.min(textLength, source.length);
             behind = 0;
         }
 
@@ -1389,18 +1387,18 @@ public final class MealLoader {
         int error;
         int errorAt;
 
-        FlightText(byte[] source) {
-            tokens = new Tokens(source);
+        FlightText() {
+            tokens = new Tokens();
         }
 
-        boolean read(int length, Flight into, Plan intoPlan) {
+        boolean read(byte[] text, int length, Flight into, Plan intoPlan) {
             flight = into;
             plan = intoPlan;
             plan.clear();
             flight.clear(plan);
             error = 0;
             errorAt = NONE;
-            tokens.begin(length);
+            tokens.begin(text, length);
             tokens.next();
             boolean right = true;
             // Each statement takes more than a byte, so the length bounds their number.
