@@ -75,6 +75,26 @@ final class ServiceTest {
             mealFor 4 = 2
             mealFor 5 = 0
             """);
+        Script.run("units that two earlier choices set free", """
+            good cabin a 9;trolley a 9;meal t special 1 1 offers ab;meal u special 1 1 offers abc;meal v special 1 1 offers acde;meal w special 1 1 offers ac;meal x special 1 1 offers acd;meal y special 1 1 offers acde;meal z special 1 1 offers acd;guest a needs a;guest a needs a;guest a needs d;guest a needs b;guest a needs b;guest a needs d;guest a needs b;guest a needs b; = 8
+            store 0 1 = 1
+            store 1 1 = 1
+            store 2 1 = 1
+            store 3 1 = 1
+            store 4 1 = 1
+            store 5 1 = 1
+            store 6 1 = 1
+            // t and u are for those who need b
+            mealFor 0 = 2
+            mealFor 1 = 3
+            mealFor 2 = 4
+            mealFor 3 = 0
+            mealFor 4 = 1
+            mealFor 5 = 5
+            mealFor 6 = -1
+            mealFor 7 = -1
+            outlook 0 = 6
+            """);
         Script.run("meals of the menu and of other cabins", """
             good cabin a 9;cabin b 9;meal x menu b 1 1 5 offers a;meal y menu a 1 1 7 offers a;meal z special 1 7 offers a;trolley b 2;trolley a 9;guest a needs a;guest a needs a;guest a;guest b needs a; = 4
             store 0 1 = 1
