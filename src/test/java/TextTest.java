@@ -154,12 +154,12 @@ final class TextTest {
             error 1 lead ^12345;
             error 1 cabin a ^99999;
             error 1 cabin a 5 ^00005;
-            error 1 cabin a 5^\\t;
+            error 1 cabin a 5^\\h09;
             error 1 lead 5^,;
             error 1 lead^-5;
-            error 1 ^\\x;
-            error 1 lead 1^\\x;
-            error 1 lead^\\z1;
+            error 1 ^\\hc3;
+            error 1 lead 1^\\hc3;
+            error 1 lead^\\h001;
             error 1 lead 1;^$
             error 1 lead 1^A;
             error 1 cabin a^A 5;
