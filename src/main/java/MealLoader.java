@@ -1344,7 +1344,7 @@ public final class MealLoader {
         }
 
         boolean is(String word) {
-            if (kind != WORD || size() != word.length()) {
+            if (kind != WORD || behind - start != word.length()) {
                 return false;
             }
             for (int i = 0; i < word.length(); i++) {

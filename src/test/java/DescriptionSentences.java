@@ -56,6 +56,36 @@ final class DescriptionSentences {
             trolley 8 1 = throws.NoSuchElementException
             trolley -1 1 = throws.NoSuchElementException
             board 0 0 -1 = refused 8
+            store 11 9 = 9
+            store 0 1 = refused 3
+            held 6 11 = 1
+            held 7 11 = 2
+            trolley 7 2 = 0
+            trolley 7 3 = 2
+            cabin 0 5 = 0
+            cabin 1 5 = 0
+            cabin 3 5 = 0
+            count 7 = 9
+            meal 11 5 = 9
+            outlook 2 = 40
+            outlook 3 = 9
+            outlook 4 = 18
+            writes 7 = 2xl
+            loadOrder = 0
+            unload 11 3 = 6
+            held 7 11 = 0
+            held 6 11 = 0
+            topUp 11 1 = 1
+            meal 11 7 = 1
+            setNeeds 39 1 = 0
+            mealFor 39 = -1
+            change 39 3 = 1
+            leave 0 = 39
+            board 0 0 -1 = 39
+            advance 10 = 0
+            held 6 11 = 1
+            serve = 0
+            account 4 = 40
             """
             + "error 4 " + CABINS + "^cabin e 1;\n"
             + "error 4 " + MEALS + "^meal m special 1 1;\n"
@@ -235,6 +265,9 @@ final class DescriptionSentences {
             meal 2 6 = 0
             meal 3 6 = 1
             count 8 = 3
+            // of a meal that plain passengers get, too
+            good cabin a 9 50;meal x menu a 1 1 1 offers a;guests a 2;guest a needs a;guest a needs a; = 4
+            meal 0 6 = 5
             """);
         s.says("- For each cabin with n plain passengers, n greater than 0, and with a menu, "
             + "(n * (100 + spare) + 99) / 100 units, rounded down,", """
@@ -455,13 +488,85 @@ final class DescriptionSentences {
             mealFor 2 = 1
             mealFor 3 = -1
             outlook 0 = 2
-            // the first takes x for itself, though then the last goes before the second
-            good cabin a 9;meal x special 1 1 offers ab;meal y special 1 1 offers ac;trolley a 9;guest a needs a;guest a needs b;guest a needs c; = 3
+            // the first takes x for itself, and y is not for the second
+            good cabin a 9;meal x special 1 5 offers ab;meal y special 1 7 offers ac;trolley a 9;guest a needs a;guest a needs b;guest a needs c; = 3
             store 0 1 = 1
             store 1 1 = 1
             mealFor 0 = 0
             mealFor 1 = -1
             mealFor 2 = 1
+            outlook 0 = 2
+            """);
+        s.says("of all ways to match as many, the first one is taken:", """
+            good cabin a 9;meal w special 1 5 offers abc;meal x special 1 5 offers ab;meal y special 1 7 offers bc;meal z special 1 7 offers cd;trolley a 9;guest a needs c;guest a needs b;guest a needs a;guest a needs ab;guest a needs d; = 5
+            store 0 1 = 1
+            store 1 1 = 1
+            store 2 1 = 1
+            store 3 1 = 1
+            // with x for passenger 1 there would be none for 2 and 3
+            outlook 0 = 4
+            mealFor 0 = 0
+            mealFor 1 = 2
+            mealFor 2 = 1
+            mealFor 3 = -1
+            mealFor 4 = 3
+            """);
+        s.says("of two meals the one with the lower number.", """
+            good cabin a 9;trolley a 9;meal u special 1 1 offers abcde;meal v special 1 1 offers acd;meal w special 1 1 offers cde;meal x special 1 1 offers acde;meal y special 1 1 offers a;meal z special 1 1 offers ab; = 0
+            board 0 1 -1 = 0
+            board 0 1 -1 = 1
+            board 0 16 -1 = 2
+            board 0 17 -1 = 3
+            board 0 8 -1 = 4
+            board 0 17 -1 = 5
+            store 0 2 = 2
+            store 1 1 = 1
+            store 2 2 = 2
+            store 4 1 = 1
+            store 5 2 = 2
+            mealFor 0 = 1
+            mealFor 1 = 4
+            mealFor 2 = 2
+            mealFor 3 = 0
+            mealFor 4 = 2
+            mealFor 5 = 0
+            """);
+        s.says("each gets at most one unit of a meal that is loaded", """
+            // u is left for the last, as the only t is the fourth's
+            good cabin a 9;trolley a 9;meal s special 1 1 offers ae;meal t special 1 1 offers adf;meal u special 1 1 offers df;meal v special 1 1 offers bcdf;meal w special 1 1 offers acef;meal x special 1 1 offers ce;meal y special 1 1 offers bf;guest a needs a;guest a needs b;guest a needs c;guest a needs d;guest a needs e;guest a needs f; = 6
+            store 0 1 = 1
+            store 1 1 = 1
+            store 2 2 = 2
+            store 3 1 = 1
+            store 4 1 = 1
+            store 6 1 = 1
+            mealFor 0 = 0
+            mealFor 1 = 6
+            mealFor 2 = 3
+            mealFor 3 = 1
+            mealFor 4 = 4
+            mealFor 5 = 2
+            outlook 3 = 1
+            """);
+        s.says("the passengers are compared by their numbers,", """
+            good cabin a 9;trolley a 9;meal t special 1 1 offers ab;meal u special 1 1 offers abc;meal v special 1 1 offers acde;meal w special 1 1 offers ac;meal x special 1 1 offers acd;meal y special 1 1 offers acde;meal z special 1 1 offers acd;guest a needs a;guest a needs a;guest a needs d;guest a needs b;guest a needs b;guest a needs d;guest a needs b;guest a needs b; = 8
+            store 0 1 = 1
+            store 1 1 = 1
+            store 2 1 = 1
+            store 3 1 = 1
+            store 4 1 = 1
+            store 5 1 = 1
+            store 6 1 = 1
+            // t and u are for those who need b
+            mealFor 0 = 2
+            mealFor 1 = 3
+            mealFor 2 = 4
+            mealFor 3 = 0
+            mealFor 4 = 1
+            mealFor 5 = 5
+            mealFor 6 = -1
+            mealFor 7 = -1
+            outlook 0 = 6
             """);
     }
 

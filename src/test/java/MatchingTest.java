@@ -1,8 +1,9 @@
 import java.util.Arrays;
 
 /**
- * Promises 23 and 24, the special passengers: small flights against all ways to match that there are, in their order,
- * and full ones against the Model. The numbers come from a row that is always the same.
+ * Promises 23 and 24, the special passengers: small flights against all ways to match that there are, in their order;
+ * many flights on which each passenger has a diet of its own, so that any meals may suit, against a plain reckoning; and
+ * full ones against the Model. The numbers come from a row that is always the same.
  */
 final class MatchingTest {
     private static long row = 7;
@@ -15,6 +16,9 @@ final class MatchingTest {
     public static void main(String[] args) {
         for (int run = 0; run < 1500; run++) {
             small(run, 1 + below(6), 1 + below(4));
+        }
+        for (int run = 0; run < 40000; run++) {
+            ownDiets(run, 5 + below(4), 4 + below(9));
         }
         for (int run = 0; run < 150; run++) {
             full(run, 20 + below(21), 4 + below(9));
@@ -63,6 +67,76 @@ final class MatchingTest {
         }
         got[p] = -1;
         return search(p + 1, got, best, now, offers, needs, left);
+    }
+
+    private static void ownDiets(int run, int people, int meals) {
+        int[] offers = new int[meals];
+        int[] needs = new int[people];
+        int[] units = numbers(meals, 3);
+        for (int p = 0; p < people; p++) {
+            needs[p] = 1 << p;
+            for (int m = 0; m < meals; m++) {
+                offers[m] |= below(2) << p;
+            }
+        }
+        MealLoader loader = new MealLoader();
+        prepare(loader, offers, needs, units);
+        int[] first = firstWay(offers, needs, units);
+        for (int p = 0; p < people; p++) {
+            if (loader.mealFor(p) != first[p]) {
+                Script.tell("own diets " + run + ": passenger " + p + " got " + loader.mealFor(p) + ", due is "
+                    + Arrays.toString(first));
+                return;
+            }
+        }
+    }
+
+    /** Each passenger gets the first meal with which those behind can still be as many as are due. */
+    private static int[] firstWay(int[] offers, int[] needs, int[] units) {
+        int[] got = new int[needs.length];
+        int[] left = units.clone();
+        int due = most(0, offers, needs, left);
+        for (int p = 0; p < got.length; p++) {
+            got[p] = -1;
+            for (int m = 0; m < offers.length && got[p] < 0; m++) {
+                if (left[m] > 0 && (needs[p] & ~offers[m]) == 0) {
+                    left[m]--;
+                    got[p] = 1 + most(p + 1, offers, needs, left) == due ? m : -1;
+                    left[m] += got[p] < 0 ? 1 : 0;
+                }
+            }
+            due -= got[p] < 0 ? 0 : 1;
+        }
+        return got;
+    }
+
+    private static int most(int first, int[] offers, int[] needs, int[] left) {
+        int[][] eaters = new int[left.length][];
+        for (int m = 0; m < left.length; m++) {
+            eaters[m] = new int[left[m]];
+            Arrays.fill(eaters[m], -1);
+        }
+        int matched = 0;
+        for (int p = first; p < needs.length; p++) {
+            matched += finds(p, offers, needs, eaters, new boolean[left.length]) ? 1 : 0;
+        }
+        return matched;
+    }
+
+    private static boolean finds(int p, int[] offers, int[] needs, int[][] eaters, boolean[] seen) {
+        for (int m = 0; m < offers.length; m++) {
+            if (!seen[m] && (needs[p] & ~offers[m]) == 0) {
+                seen[m] = true;
+                for (int unit = 0; unit < eaters[m].length; unit++) {
+                    int eater = eaters[m][unit];
+                    if (eater < 0 || finds(eater, offers, needs, eaters, seen)) {
+                        eaters[m][unit] = p;
+                        return true;
+                    }
+                }
+            }
+        }
+        return false;
     }
 
     private static void full(int run, int people, int meals) {

@@ -171,6 +171,25 @@ final class ReportSentences {
             count 1 = 0
             count 7 = 0
             """);
+        s.says("Without an error, it replaces the present one,", """
+            // nothing of the flights before, nor of the one before them, is left
+            good cabin a 5 50;meal m menu a 7 2 30 offers ab;trolley a 9;guest a needs a wish m; = 1
+            store 0 3 = 3
+            good cabin a 5 50;meal m menu a 7 2 30 offers ab;trolley a 9;guest a needs a wish m; = 1
+            store 0 3 = 3
+            good cabin a 6;meal m special 1 30;trolley a 8;guest a; = 1
+            cabin 0 1 = 0
+            meal 0 0 = -1
+            meal 0 1 = 0
+            meal 0 4 = 0
+            passenger 0 1 = 0
+            passenger 0 2 = -1
+            held 0 0 = 0
+            trolley 0 2 = 8
+            good cabin a 6;meal m special 1 30;trolley a 8;guest a; = 1
+            meal 0 1 = 0
+            meal 0 4 = 0
+            """);
         s.says("The buffer is emptied unless an IllegalArgumentException is thrown.", """
             feeds lead 5; = 20
             load 7 = 0

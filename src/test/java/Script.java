@@ -75,7 +75,7 @@ final class Script {
         String want = line.substring(sign + 2).strip();
         String rest = call.substring(Math.min(call.length(), word.length() + 1));
         switch (word) {
-            case "good" -> check(line, loadText(line, unescape(rest)), want);
+            case "good" -> good(line, unescape(rest), want);
             case "feeds" -> check(line, feed(line, unescape(rest)), want);
             case "writes" -> writes(line, rest, want);
             default -> call(line, call, want);
@@ -94,6 +94,12 @@ final class Script {
         } else {
             check(line, make(line, call), reckon(want));
         }
+    }
+
+    private void good(String line, String text, String want) {
+        check(line, loadText(line, text), want);
+        check(line, "" + loader.errorCode(), "0");
+        check(line, "" + loader.errorPosition(), "-1");
     }
 
     private void error(String line) {

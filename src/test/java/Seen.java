@@ -75,9 +75,18 @@ final class Seen {
                 loader = made(more);
                 made = calls.size() + more.size();
             }
-            text.append("\n  ").append(question).append(" = ").append(Script.answer(loader, question));
+            text.append("\n  ").append(question).append(" = ").append(answer(loader, question));
             made++;
         }
+    }
+
+    /** The answer to a question on what there is, which throws nothing. */
+    private String answer(MealLoader loader, String question) {
+        String answer = Script.answer(loader, question);
+        if (answer.startsWith("throws.")) {
+            Script.tell("behind " + calls + ": " + question + " " + answer);
+        }
+        return answer;
     }
 
     private List<String> questions(MealLoader loader) {
@@ -103,7 +112,7 @@ final class Seen {
         while (!Script.answer(loader, "outputByte " + output).startsWith("throws")) {
             output++;
         }
-        add(all, "outputByte", 1, output + 1);
+        add(all, "outputByte", 1, output);
         return all;
     }
 

@@ -409,6 +409,22 @@ final class ServiceSentences {
             account 0 = 11
             account 5 = 2
             """);
+        s.says("All but reason() is as before the act", FLIGHT + """
+            // what was asked behind the act and ahead of it tells of the flight as it is
+            loadOrder = 4
+            mealFor 0 = 0
+            outlook 1 = 4
+            setNeeds 0 255 = 0
+            mealFor 0 = -1
+            outlook 1 = 3
+            undo = 1
+            mealFor 0 = 0
+            outlook 1 = 4
+            unload 0 1 = 1
+            mealFor 1 = -1
+            undo = 1
+            mealFor 1 = 0
+            """);
     }
 
     private static void keep() {
@@ -473,7 +489,11 @@ final class ServiceSentences {
             leave 0 = 3
             store 2 2 = 2
             topUp 0 1 = 1
+            mealFor 2 = 2
+            outlook 3 = 1
             restore 0 = 1
+            mealFor 3 = -1
+            outlook 3 = 0
             count 3 = 4
             count 6 = 0
             count 7 = 0
@@ -542,7 +562,11 @@ final class ServiceSentences {
             good cabin a 9;meal a special 1 1;trolley a 40; = 0
             store 0 40 = 40
             writes 0 = 40xa
-            unload 0 39 = 1
+            unload 0 1 = 39
+            writes 0 = 39xa
+            unload 0 20 = 19
+            writes 0 = 19xa
+            unload 0 18 = 1
             writes 0 = 1xa
             """);
         StringBuilder meals = new StringBuilder();

@@ -32,69 +32,6 @@ final class ServiceTest {
             mealFor 3 = throws.NoSuchElementException
             mealFor -1 = throws.NoSuchElementException
             """);
-        Script.run("a lower meal for an earlier passenger goes before a meal for the next one", """
-            good cabin a 9;meal x special 1 5 offers ab;meal y special 1 7 offers ac;trolley a 9;guest a needs a;guest a needs b;guest a needs c; = 3
-            store 0 1 = 1
-            store 1 1 = 1
-            mealFor 0 = 0
-            mealFor 1 = -1
-            mealFor 2 = 1
-            outlook 0 = 2
-            """);
-        Script.run("a longer chain", """
-            good cabin a 9;meal w special 1 5 offers abc;meal x special 1 5 offers ab;meal y special 1 7 offers bc;meal z special 1 7 offers cd;trolley a 9;guest a needs c;guest a needs b;guest a needs a;guest a needs ab;guest a needs d; = 5
-            store 0 1 = 1
-            store 1 1 = 1
-            store 2 1 = 1
-            store 3 1 = 1
-            // with x for passenger 1 there would be none for 2 and 3
-            outlook 0 = 4
-            mealFor 0 = 0
-            mealFor 1 = 2
-            mealFor 2 = 1
-            mealFor 3 = -1
-            mealFor 4 = 3
-            """);
-        Script.run("a unit that an earlier choice sets free", """
-            good cabin a 9;trolley a 9;meal u special 1 1 offers abcde;meal v special 1 1 offers acd;meal w special 1 1 offers cde;meal x special 1 1 offers acde;meal y special 1 1 offers a;meal z special 1 1 offers ab; = 0
-            board 0 1 -1 = 0
-            board 0 1 -1 = 1
-            board 0 16 -1 = 2
-            board 0 17 -1 = 3
-            board 0 8 -1 = 4
-            board 0 17 -1 = 5
-            store 0 2 = 2
-            store 1 1 = 1
-            store 2 2 = 2
-            store 4 1 = 1
-            store 5 2 = 2
-            mealFor 0 = 1
-            mealFor 1 = 4
-            mealFor 2 = 2
-            mealFor 3 = 0
-            mealFor 4 = 2
-            mealFor 5 = 0
-            """);
-        Script.run("units that two earlier choices set free", """
-            good cabin a 9;trolley a 9;meal t special 1 1 offers ab;meal u special 1 1 offers abc;meal v special 1 1 offers acde;meal w special 1 1 offers ac;meal x special 1 1 offers acd;meal y special 1 1 offers acde;meal z special 1 1 offers acd;guest a needs a;guest a needs a;guest a needs d;guest a needs b;guest a needs b;guest a needs d;guest a needs b;guest a needs b; = 8
-            store 0 1 = 1
-            store 1 1 = 1
-            store 2 1 = 1
-            store 3 1 = 1
-            store 4 1 = 1
-            store 5 1 = 1
-            store 6 1 = 1
-            // t and u are for those who need b
-            mealFor 0 = 2
-            mealFor 1 = 3
-            mealFor 2 = 4
-            mealFor 3 = 0
-            mealFor 4 = 1
-            mealFor 5 = 5
-            mealFor 6 = -1
-            mealFor 7 = -1
-            outlook 0 = 6
-            """);
         Script.run("meals of the menu and of other cabins", """
             good cabin a 9;cabin b 9;meal x menu b 1 1 5 offers a;meal y menu a 1 1 7 offers a;meal z special 1 7 offers a;trolley b 2;trolley a 9;guest a needs a;guest a needs a;guest a;guest b needs a; = 4
             store 0 1 = 1
