@@ -21,6 +21,7 @@ final class ServiceSentences {
         restore();
         writeTrolley();
         outputByte();
+        manyCalls();
     }
 
     private static void outlook() {
@@ -610,5 +611,24 @@ final class ServiceSentences {
             Script.beyond("outputByte #", 0, -1, "IndexOutOfBoundsException") + FLIGHT + "store 0 2 = 2\nwriteTrolley 1 = 7\n"
             + Script.beyond("outputByte #", 0, 6, "IndexOutOfBoundsException") + "writeTrolley 0 = 1\n"
             + Script.beyond("outputByte #", 0, 0, "IndexOutOfBoundsException"));
+    }
+
+    private static void manyCalls() {
+        Section s = Section.of("What it is");
+        StringBuilder acts = new StringBuilder(FLIGHT);
+        for (int act = 1; act <= 480; act++) {
+            acts.append("setNeeds 0 ").append(act % 256).append(" = ").append((act - 1) % 256).append('\n');
+        }
+        s.says("An object is used for at most 512 calls after it has been made", acts + "count 9 = 12\nundo = 11\n"
+            + "passenger 0 1 = 223\n");
+        // 320 units of the greatest cost are wasted each time.
+        StringBuilder flights = new StringBuilder();
+        for (int flight = 1; flight <= 25; flight++) {
+            flights.append("good cabin a 1;meal x special 1 9999;").append("trolley a 40;".repeat(8)).append(" = 0\n")
+                .append("store 0 99 = 99\nstore 0 99 = 198\nstore 0 99 = 297\nstore 0 23 = 320\nserve = 0\n")
+                .append("account 0 = ").append(320 * flight).append("\naccount 3 = ").append(3199680L * flight).append('\n');
+        }
+        s.says("An object is used for at most 512 calls after it has been made", flights + "wasteBits = float 1/1\n"
+            + "costBits = double 3199680/1\naccount 5 = 25\n");
     }
 }
