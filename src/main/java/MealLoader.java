@@ -1160,7 +1160,8 @@ public final class MealLoader {
             queued = 0;
             seen = 0;
             reach(waiting, NONE);
-            for (int head = 0; head < queued; head++) {
+            // Each meal is queued at most once.
+            for (int head = 0; head < queued && head < meals; head++) {
                 int meal = queue[head];
                 if (free[meal] > 0) {
                     moveAlong(first, meal);

@@ -23,13 +23,14 @@ final class CompareTest {
     }
 
     public static void main(String[] args) {
-        for (int run = 0; run < 1500; run++) {
-            compare(run);
+        int wrongRuns = 0;
+        for (int run = 0; run < 1500 && wrongRuns < 3; run++) {
+            wrongRuns += compare(run) ? 0 : 1;
         }
         Script.end();
     }
 
-    private static void compare(int run) {
+    private static boolean compare(int run) {
         MealLoader loader = new MealLoader();
         Model model = new Model();
         List<String> calls = new ArrayList<>();
@@ -37,16 +38,16 @@ final class CompareTest {
         while (calls.size() < most) {
             if (below(60) == 0 || calls.isEmpty() && below(20) > 0) {
                 if (!text(run, loader, model, calls)) {
-                    return;
+                    return false;
                 }
             }
             String[] shapes = below(12) == 0 ? RARE_ACTS : below(2) == 0 ? ACTS : REPORTS;
             String call = call(shapes[below(shapes.length)], model);
             if (!same(run, loader, model, calls, call)) {
-                return;
+                return false;
             }
         }
-        everything(run, loader, model, calls);
+        return everything(run, loader, model, calls);
     }
 
     private static boolean same(int run, MealLoader loader, Model model, List<String> calls, String call) {
@@ -54,7 +55,7 @@ final class CompareTest {
         String got = Script.answer(loader, call);
         String want = Script.answer(model, call);
         if (!got.equals(want)) {
-            Script.tell("run " + run + ": " + calls + " answered " + got + ", the model " + want);
+            Script.tell("run " + run + ": " + call + ": answered " + got + ", due is " + want + ", behind " + calls);
         }
         return got.equals(want);
     }
@@ -189,7 +190,7 @@ final class CompareTest {
         };
     }
 
-    private static void everything(int run, MealLoader loader, Model model, List<String> calls) {
+    private static boolean everything(int run, MealLoader loader, Model model, List<String> calls) {
         for (String shape : REPORTS) {
             String[] words = shape.split(" ");
             int first = words.length > 1 ? bound(words[1], model) : 1;
@@ -198,10 +199,11 @@ final class CompareTest {
                 for (int k = 0; k < second; k++) {
                     String call = words[0] + (words.length > 1 ? " " + i : "") + (words.length > 2 ? " " + k : "");
                     if (!same(run, loader, model, calls, call)) {
-                        return;
+                        return false;
                     }
                 }
             }
         }
+        return true;
     }
 }

@@ -27,6 +27,7 @@ final class Script {
         "unload", "topUp", "advance", "serve");
     private static final Pattern BYTE = Pattern.compile("\\\\h([0-9a-f]{2})");
     private static final Map<String, Method> METHODS = new HashMap<>();
+    private static final int MOST_TOLD = 20;
     private static int wrong = 0;
 
     private final String name;
@@ -247,9 +248,11 @@ final class Script {
         }
     }
 
-    /** Tells of a wrong answer that a test found by itself. */
+    /** Tells of a wrong answer that a test found by itself; behind the first ones they are counted alone. */
     static void tell(String what) {
         wrong++;
-        System.out.println(what);
+        if (wrong <= MOST_TOLD) {
+            System.out.println(what);
+        }
     }
 }
